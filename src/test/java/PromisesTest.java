@@ -338,6 +338,16 @@ public final class PromisesTest {
         due("setEncore(1, 0)", x.setEncore(1, 0), 1);
         due("clearText()", x.clearText(), text.length());
         due("songCount() with the text cleared", x.songCount(), 2);
+        SetlistPlanner again = configured("s1;s1;s1;s1;s1;p0;k1,0;u0,0,0,0;u2,0,0,0;u4,0,0,0;");
+        due("bestCost() before configure", again.bestCost(), 1);
+        again.clearText();
+        write(again, "s1;s1;s1;p0;k1,1;u1,0,0,0;u2,0,0,5;");
+        due("configure() with fewer songs", again.configure(), 3);
+        dueSame("the state after another concert was asked", state(again), state(configured("s1;s1;s1;p0;k1,1;u1,0,0,0;u2,0,0,5;")));
+        again.clearText();
+        write(again, FIRST);
+        due("configure() with more songs", again.configure(), 5);
+        dueSame("the state after another concert was asked", state(again), state(configured(FIRST)));
         due("configure() of the greatest", configured(GREATEST + "u7,4,5,5;e7;").songCount(), 8);
         SetlistPlanner sides = configured("s1;s1;p1;p0;k1,0;k1,1;u0,0,0,0;u0,1,1,0;");
         due("changeCost(0, 0, 1)", sides.changeCost(0, 0, 1), 2);
@@ -435,6 +445,11 @@ public final class PromisesTest {
         x.removePart(4, 2);
         due("setUnits(0, 1) with one player a song", x.setUnits(0, 1), 2);
         due("setPart(4, 2, 0, 0)", x.setPart(4, 2, 0, 0), IMPOSSIBLE);
+        for (int song = 0; song < 8; song++) {
+            SetlistPlanner y = configured(GREATEST + "u" + song + ",0,0,0;u" + song + ",4,0,0;");
+            due("setUnits(0, 1) with song " + song + " against it", y.setUnits(0, 1), IMPOSSIBLE);
+            due("setUnits(0, 2) with song " + song + " just for it", y.setUnits(0, 2), 5);
+        }
     }
 
     private static void promise9() {
@@ -550,6 +565,13 @@ public final class PromisesTest {
         due("moveSong(0, 1) of a pinned song", x.moveSong(0, 1), 0);
         dueOrder(x, 1, 0, 2, 3, 4);
         due("isAllowed()", x.isAllowed(), 0);
+        SetlistPlanner y = configured(GREATEST);
+        due("moveSong(0, 7) of eight", y.moveSong(0, 7), 0);
+        dueOrder(y, 1, 2, 3, 4, 5, 6, 7, 0);
+        due("moveSong(7, 0) of eight", y.moveSong(7, 0), 0);
+        dueOrder(y, 0, 1, 2, 3, 4, 5, 6, 7);
+        due("adoptBest() of eight", y.adoptBest(), 0);
+        dueOrder(y, 0, 1, 2, 3, 4, 5, 6, 7, INVALID);
     }
 
     private static void promise13() {
@@ -753,6 +775,13 @@ public final class PromisesTest {
         section = "promise 24";
         due("isAllowed() with an encore at the front", x.isAllowed(), 0);
         due("isAllowed() of a new object", new SetlistPlanner().isAllowed(), 1);
+        for (int song = 0; song < 5; song++) {
+            SetlistPlanner pinned = new SetlistPlanner();
+            pinned.pin(song, song);
+            due("isAllowed() with song " + song + " at its pin", pinned.isAllowed(), 1);
+            pinned.pin(song, (song + 1) % 5);
+            due("isAllowed() with song " + song + " before its pin", pinned.isAllowed(), 0);
+        }
         x = new SetlistPlanner();
         x.pin(2, 1);
         due("isAllowed() with song 2 elsewhere", x.isAllowed(), 0);
