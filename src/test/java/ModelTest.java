@@ -10,9 +10,13 @@ import java.util.regex.Pattern;
 /**
  * Long runs of drawn calls, each answer compared with that of a model which is written another way: statements
  * by regular expressions, best orders by trying all of them. The seeds are fixed, so every run is the same.
+ * No object is asked more than 512 times, for what it answers after that is free.
  */
 public final class ModelTest {
     private static final int INVALID = -1, IMPOSSIBLE = -2, EXCEEDED = -3, MISSING = -4;
+    private static final int MOST_CALLS = 512;
+    /** A text, what is asked of it, and some calls behind it. */
+    private static final int CALLS_OF_A_CONCERT = 340;
 
     /** A value that is copied whole before each edit. */
     private static final class State {
@@ -175,6 +179,7 @@ public final class ModelTest {
         final StringBuilder text = new StringBuilder();
         State now;
         final Deque<State> before = new ArrayDeque<>();
+        int callsLeft = MOST_CALLS;
         private Best best;
 
         Model(String first) {
@@ -514,6 +519,10 @@ public final class ModelTest {
     private static final int[] errors = new int[NAMES.length];
 
     private static void compare(int run, SetlistPlanner x, Model model, int method, int... arguments) {
+        if (model.callsLeft == 0) {
+            return;
+        }
+        model.callsLeft--;
         int[] n = Arrays.copyOf(arguments, 4);
         int want = model.call(method, n[0], n[1], n[2], n[3]);
         int got = call(x, method, n[0], n[1], n[2], n[3]);
@@ -615,8 +624,8 @@ public final class ModelTest {
         if (songs > 0) {
             writeAndConfigure(run, x, model, concert(random, songs));
         }
-        for (int i = 0; i < length; i++) {
-            if (random.nextInt(60) == 0) {
+        for (int i = 0; i < length && model.callsLeft > 0; i++) {
+            if (random.nextInt(60) == 0 && model.callsLeft >= CALLS_OF_A_CONCERT) {
                 compare(run, x, model, 1);
                 writeAndConfigure(run, x, model, concert(random, 1 + random.nextInt(Math.max(1, songs))));
             }
@@ -661,13 +670,13 @@ public final class ModelTest {
     }
 
     public static void main(String[] args) {
-        for (int run = 0; run < 400; run++) {
-            run(run, run % 6, 200);
+        for (int run = 0; run < 600; run++) {
+            run(run, run % 6, MOST_CALLS);
         }
-        for (int run = 400; run < 420; run++) {
+        for (int run = 600; run < 620; run++) {
             run(run, 6 + run % 3, 60);
         }
-        for (int run = 1000; run < 7000; run++) {
+        for (int run = 1000; run < 7500; run++) {
             runTexts(run);
         }
         if (configured < 3000) {

@@ -43,7 +43,10 @@ public final class PromisesTest {
         due("length of " + text, x.clearText(), text.length());
     }
 
-    /** Everything that can be asked about the state, so that two states can be compared. */
+    /**
+     * What can be asked about the state, so that two states can be compared; in some 110 calls for five songs, for
+     * what an object answers after its 512th call is free.
+     */
     private static String state(SetlistPlanner x) {
         StringBuilder all = new StringBuilder();
         int songs = x.songCount();
@@ -51,20 +54,35 @@ public final class PromisesTest {
         all.append(x.dearestChangeover()).append(' ').append(x.bestCost()).append(' ').append(x.bestOrderCount());
         for (int song = 0; song < songs; song++) {
             all.append("; ").append(x.songAt(song)).append(' ').append(x.bestSongAt(song)).append(' ').append(x.bestCostFrom(song));
-            for (int player = 0; player < 5; player++) {
-                all.append(' ').append(x.kindOf(song, player)).append('/').append(x.tuningOf(song, player));
-            }
-            for (int kind = 0; kind < 6; kind++) {
-                all.append(' ').append(x.spareUnits(song, kind));
-            }
+            addParts(all, x, song);
+            addSpareUnits(all, x, song);
             for (int other = 0; other < songs; other++) {
                 all.append(' ').append(x.changeoverCost(song, other));
             }
         }
-        for (int minutes = 0; minutes <= 160; minutes++) {
+        for (int minutes : new int[] {1, 3, 4, 5, 6, 7, 8, 10, 160}) {
             all.append(' ').append(x.encoresWithin(minutes));
         }
         return all.toString();
+    }
+
+    private static void addParts(StringBuilder all, SetlistPlanner x, int song) {
+        int kind = MISSING;
+        for (int player = 0; player < 5 && kind != INVALID; player++) {
+            kind = x.kindOf(song, player);
+            all.append(' ').append(kind);
+            if (kind >= 0) {
+                all.append('/').append(x.tuningOf(song, player));
+            }
+        }
+    }
+
+    private static void addSpareUnits(StringBuilder all, SetlistPlanner x, int song) {
+        int units = 0;
+        for (int kind = 0; kind < 6 && units != INVALID; kind++) {
+            units = x.spareUnits(song, kind);
+            all.append(' ').append(units);
+        }
     }
 
     private static void dueSame(String what, String got, String want) {
@@ -597,36 +615,44 @@ public final class PromisesTest {
         due("undo()", y.undo(), 0);
     }
 
+    /** An object behind the first of eight edits, one of each method that edits. */
+    private static SetlistPlanner edited(int edits) {
+        SetlistPlanner x = new SetlistPlanner();
+        for (int edit = 0; edit < edits; edit++) {
+            switch (edit) {
+                case 0 -> due("setPart(0, 2, 0, 3)", x.setPart(0, 2, 0, 3), 2);
+                case 1 -> due("removePart(3, 0)", x.removePart(3, 0), 2);
+                case 2 -> due("setUnits(0, 4)", x.setUnits(0, 4), 2);
+                case 3 -> due("pin(2, 1)", x.pin(2, 1), 1);
+                case 4 -> due("setEncore(3, 1)", x.setEncore(3, 1), 0);
+                case 5 -> due("moveSong(4, 1)", x.moveSong(4, 1), 4);
+                case 6 -> due("adoptBest()", x.adoptBest(), x.orderCost());
+                default -> due("unpin(2)", x.unpin(2), 1);
+            }
+        }
+        return x;
+    }
+
     private static void promise14() {
         section = "promise 14";
-        SetlistPlanner x = new SetlistPlanner();
-        due("undo()", x.undo(), IMPOSSIBLE);
-        String[] states = new String[9];
-        states[0] = state(x);
-        x.setPart(0, 2, 0, 3);
-        states[1] = state(x);
-        x.removePart(3, 0);
-        states[2] = state(x);
-        x.setUnits(0, 4);
-        states[3] = state(x);
-        x.pin(2, 1);
-        states[4] = state(x);
-        x.setEncore(3, 1);
-        states[5] = state(x);
-        x.moveSong(4, 1);
-        states[6] = state(x);
-        x.adoptBest();
-        states[7] = state(x);
-        x.unpin(2);
-        states[8] = state(x);
-        write(x, "s1;p0");
-        for (int left = 4; left >= 0; left--) {
-            due("undo()", x.undo(), left);
-            dueSame("the state with " + left + " left", state(x), states[3 + left]);
+        due("undo()", new SetlistPlanner().undo(), IMPOSSIBLE);
+        for (int edits = 1; edits <= 8; edits++) {
+            SetlistPlanner x = edited(edits);
+            write(x, "s1;p0");
+            int most = Math.min(edits, 5);
+            for (int undos = 1; undos <= most; undos++) {
+                due("undo() " + undos + " of " + edits + " edits", x.undo(), most - undos);
+                SetlistPlanner undone = edited(edits);
+                for (int i = 0; i < undos; i++) {
+                    undone.undo();
+                }
+                dueSame("the state after " + undos + " of " + edits + " edits are undone", state(undone), state(edited(edits - undos)));
+            }
+            due("undo() behind the last", x.undo(), IMPOSSIBLE);
+            dueSame("the state with nothing to undo", state(x), state(edited(edits - most)));
+            due("clearText()", x.clearText(), 5);
         }
-        due("undo()", x.undo(), IMPOSSIBLE);
-        dueSame("the state with nothing to undo", state(x), states[3]);
-        due("clearText()", x.clearText(), 5);
+        SetlistPlanner x = new SetlistPlanner();
         x.moveSong(0, 1);
         due("undo() after a new edit", x.undo(), 0);
         x.pin(2, 1);
